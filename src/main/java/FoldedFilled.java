@@ -725,18 +725,13 @@ public final class FoldedFilled {
             hall = other.hall;
         }
 
-        /** The caller has looked that there is a place. All is set: an undone person may have left its numbers there. */
+        /** The caller has looked that there is a place. */
         int comes(int itsKind, int itsV, int itsWork) {
             int p = people;
             kind[p] = itsKind;
             v[p] = itsV;
             work[p] = itsWork;
-            did[p] = 0;
-            waited[p] = 0;
-            gone[p] = false;
-            for (int part = 0; part < ROW; part++) {
-                rows[p * ROW + part] = 0;
-            }
+            // All else of it is still 0: an undo brings back all places, those of nobody too.
             people++;
             return p;
         }

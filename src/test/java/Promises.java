@@ -120,6 +120,7 @@ public final class Promises {
         due("the pace of one who is gone", x.of(0, 7), 3);
         paceOfKinds();
         zealByTests();
+        testsByTens();
     }
 
     private static void paceOfKinds() {
@@ -159,10 +160,10 @@ public final class Promises {
     private static void zealByTests() {
         String[] texts = {"p=1", "p<2", "p>1", "k=4", "v=7", "w=3", "d=2", "d>1", "m=2", "m<2", "!p=1", "p=1&v=8",
             "p=1|v=8", "p=2&v=7|w=3", "p=2|v=7&w=0", "!(p=2|w=3)", "!p=2&!w=3", "((((p=1))))", "!!!!p=1", "!!!p=1",
-            "p=01", "w=03&d<3", "(p=1|p=2)&v<7"};
+            "p=01", "w=03&d<3", "(p=1|p=2)&v<7", "p=1|v=7&w=0", "p=1&(v=8|w=3)", "p=2|(v=7&(k=3|w=3))"};
         boolean[] so = {true, true, false, true, true, true, true, true, true, false, false, false,
             true, true, false, false, false, true, true, false,
-            true, true, false};
+            true, true, false, true, true, true};
         for (int i = 0; i < texts.length; i++) {
             FoldedFilled x = fresh();
             x.person(0, 0, 0);
@@ -174,6 +175,27 @@ public final class Promises {
             due(texts[i], hall(x, "slack 25 " + texts[i] + ";brisk 5 p<9"), 1);
             due("zeal: " + texts[i], x.of(1, 6), so[i] ? -17 : 8);
         }
+    }
+
+    private static void testsByTens() {
+        FoldedFilled x = fresh();
+        x.person(0, 0, 3);
+        x.heap(3, 990);
+        hall(x, "brisk 17 m=0;brisk 50 d=2");
+        x.pass(1);
+        due("did 20: d is 2", x.of(0, 6), 53);
+        x.home(0, true);
+        x.pass(8);
+        due("minute 9", x.of(0, 6), 53);
+        x.pass(1);
+        due("minute 10: m is 0", x.of(0, 6), 70);
+        x.home(0, false);
+        x.heap(3, 9);
+        x.pass(1);
+        due("did 29: d is 2", x.of(0, 6), 53);
+        x.heap(3, 1);
+        x.pass(1);
+        due("did 30: d is 3", x.of(0, 6), 3);
     }
 
     private static void promise04() {
@@ -301,10 +323,16 @@ public final class Promises {
         x.person(0, 0, 0);
         due("first", hall(x, "heap 7;post 3;brisk 1 p=0"), 0);
         due("a fault", hall(x, "heap 9;post x"), -22);
+        due("a fault behind much", hall(x, "post 8;heap 9;brisk 7 p=0;x"), -36);
         due("room", x.told(1), 7);
         due("post", x.told(2), 3);
         due("zeal", x.of(0, 6), 4);
-        for (int h = 1; h < 6; h++) {
+        due("a fault behind much", hall(x, "post 8;heap 9;brisk 7 p=0;x"), -36);
+        due("hall 1", hall(x, "brisk 2 p=0"), 1);
+        due("nothing of it stays: room", x.told(1), 50);
+        due("nothing of it stays: post", x.told(2), 0);
+        due("nothing of it stays: zeal", x.of(0, 6), 5);
+        for (int h = 2; h < 6; h++) {
             due("hall " + h, hall(x, "post " + h), h);
             due("post of " + h, x.told(2), h);
             due("room of " + h, x.told(1), 50);
@@ -383,9 +411,13 @@ public final class Promises {
         x.heap(1, 0);
         x.pass(1);
         due("no pace", x.of(0, 4), 3);
+        x.heap(0, 1);
+        x.pass(1);
+        due("no pace for one letter", x.told(10), 1);
+        due("no pace", x.of(0, 4), 4);
         x.home(0, true);
         x.pass(1);
-        due("gone", x.of(0, 4), 3);
+        due("gone", x.of(0, 4), 4);
     }
 
     private static void doneUpTo9999() {
@@ -516,10 +548,47 @@ public final class Promises {
         x.home(1, true);
         due("nobody is there", x.best(3), NOT_ANY);
         due("move of those who are gone", x.best(0), NOT_ANY);
+        FoldedFilled y = fresh();
+        for (int w = 0; w < 4; w++) {
+            y.person(0, 0, w == 0 ? 3 : w);
+        }
+        y.heap(0, 500);
+        due("move to work 0", y.best(0), 0);
         due("best(5)", x.best(5), NONE);
         due("best(-1)", x.best(-1), NONE);
         due("nothing changed", x.told(13) + x.told(0) + x.of(0, 2), 90);
         enough();
+        fullRows();
+    }
+
+    /** Six people, and as many told rows as there may be: nothing is looked at behind the last. */
+    private static void fullRows() {
+        FoldedFilled x = fresh();
+        for (int p = 0; p < 6; p++) {
+            x.person(p, 0, p == 5 ? 2 : 0);
+        }
+        x.heap(0, 6000);
+        x.heap(3, 600);
+        due("yield", x.best(4), 0);
+        due("move", x.best(0), 3);
+        due("swap", x.best(1), NOT_ANY);
+        due("miss", x.best(3), 0);
+        due("mean: 6 and 6 and, with heap 1 full, 3 and 4", x.mean(6, 0), 19);
+        for (int i = 0; i < 10; i++) {
+            x.evening(0, 0);
+        }
+        due("ends", x.ends(1), 50);
+        for (int i = 0; i < 5; i++) {
+            x.see(3, 9, 0);
+        }
+        due("were", x.were(3, 1), 9);
+        for (int i = 0; i < 8; i++) {
+            x.book(3, 600);
+        }
+        due("looked", x.looked(), NOT_ANY);
+        due("image", x.image(), 6);
+        due("undo", x.undo(), 6);
+        due("row of the last", x.row(5, 3, 1), STATE);
     }
 
     private static void enough() {
@@ -541,9 +610,23 @@ public final class Promises {
         y.heap(2, 2000);
         due("yield", y.best(4), 29 * 50);
         due("more room than 20 would be due", y.best(2), NOT_ANY);
+        enoughAtTheEnds(20, 20);
+        enoughAtTheEnds(21, NOT_ANY);
         hall(y, "heap 5");
         due("yield", y.best(4), 29 * 3);
         due("more by the number than by the room", y.best(2), 3);
+    }
+
+    /** So many letters lie on heap 2 for each of 29 minutes. */
+    private static void enoughAtTheEnds(int each, int due) {
+        FoldedFilled x = fresh();
+        x.person(0, 0, 3);
+        x.person(0, 0, 2);
+        hall(x, "brisk 90 p<9");
+        x.heap(2, 29 * each);
+        x.heap(4, 3);
+        due("yield", x.best(4), 3 + 29 * each);
+        due("enough for " + each + " a minute", x.best(2), due);
     }
 
     private static void promise15() {
@@ -743,6 +826,7 @@ public final class Promises {
             due("evening(" + what + ", 1)", x.evening(what, 1), NONE);
             due("evening(" + what + ", -1)", x.evening(what, -1), NONE);
         }
+        due("evening(6, 0)", x.evening(6, 0), NONE);
         for (int i = 7; i <= 10; i++) {
             due("evening(0, BIG)", x.evening(0, BIG), i);
         }
@@ -926,12 +1010,48 @@ public final class Promises {
             x.heap(4, 3);
         }
         x.undo();
+        toldByHandIsBack();
+        x.person(6, 1, 3);
+        for (int part = 0; part < 4; part++) {
+            x.row(1, part, 9);
+        }
+        x.heap(3, 5);
+        x.pass(9);
+        x.home(1, true);
+        x.undo();
         due("one who comes behind", x.person(6, 1, 0), 1);
-        due("has no row yet", x.row(1, 2, 0), 0);
+        for (int part = 0; part < 4; part++) {
+            due("has no row yet", x.row(1, part, 0), 0);
+        }
+        due("waited not yet", x.of(1, 4), 0);
         due("did nothing yet", x.of(1, 3), 0);
         due("is there", x.of(1, 5), 0);
         due("the third hall", hall(x, "post 1"), 2);
         due("back to none", noHallHeld(), 50);
+    }
+
+    private static void toldByHandIsBack() {
+        FoldedFilled x = fresh();
+        x.person(0, 0, 0);
+        x.see(3, 7, 0);
+        x.evening(4, 0);
+        x.evening(0, 0);
+        x.book(1, 6);
+        x.heap(3, 9);
+        x.image();
+        x.see(-1, 0, 0);
+        x.see(3, 8, 0);
+        x.evening(-1, 0);
+        x.evening(0, 0);
+        x.evening(5, 0);
+        x.book(-1, 0);
+        x.book(1, 0);
+        due("undo", x.undo(), 1);
+        due("seen", x.were(3, 1), 7);
+        due("the evening", x.ends(0), 3);
+        due("the book", x.looked(), 0);
+        due("the book's letters", x.heap(1, 6), 0);
+        due("the book", x.looked(), NOT_ANY);
     }
 
     /** The room behind an image that was taken without a hall. */
@@ -1078,8 +1198,10 @@ public final class Promises {
             due("the last", x.read(sort, 59), 0);
             due("behind it", x.read(sort, 60), NO);
         }
+        x.item(3, 0, 5);
         x.item(3, 1, 5);
         due("a row of 2", x.tape(3, 3, 2), 1);
+        due("all 0", x.read(3, 0), 0);
         due("all 0", x.read(3, 1), 0);
         due("no third", x.read(3, 2), NO);
         due("a row of 0", x.tape(3, 3, 0), 1);
