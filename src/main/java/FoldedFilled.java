@@ -33,8 +33,7 @@ public final class FoldedFilled {
         Person[] kinds = {
             new Person(), new Quick(), new Dry(), new Talker(), new Sponge(), new Careful(), new Told()
         };
-        text = new byte[MOST_SIGNS];
-        Hall without = new Hall(text);
+        Hall without = new Hall();
         now = new State(kinds, without, MOST_DID);
         trial = new State(kinds, without, Integer.MAX_VALUE);
         image = new State(kinds, without, MOST_DID);
@@ -44,9 +43,10 @@ public final class FoldedFilled {
         imageSeen = new Rows(5, 3);
         imageEvening = new Rows(10, 2);
         imageBook = new Rows(8, 2);
+        text = new byte[MOST_SIGNS];
         halls = new Hall[MOST_HALLS];
         for (int h = 0; h < MOST_HALLS; h++) {
-            halls[h] = new Hall(text);
+            halls[h] = new Hall();
         }
         latest = new Act();
         tapeSort = new int[TAPES];
@@ -153,7 +153,7 @@ public final class FoldedFilled {
         }
         // A text with a fault is read into a hall that nobody has seen yet, so the one that holds is untouched.
         Hall next = halls[hallCount];
-        boolean isHall = next.takesText(signs);
+        boolean isHall = next.takesText(text, signs);
         signs = 0;
         if (!isHall) {
             return FAULT - next.at;
@@ -830,9 +830,8 @@ public final class FoldedFilled {
         /** How far the text is read: where that fails, the place of the fault. */
         int at;
 
-        /** The text is the one that grows while signs are fed: a hall looks at it only while it is read. */
-        Hall(byte[] text) {
-            this.text = text;
+        Hall() {
+            text = new byte[MOST_SIGNS];
             parts = new int[MOST_SIGNS];
             room = ROOM_WITHOUT;
         }
@@ -885,9 +884,10 @@ public final class FoldedFilled {
             }
         }
 
-        /** Becomes what the first signs of the text say; if they say nothing, false, and it is of no use. */
-        boolean takesText(int signs) {
-            size = Math.min(signs, text.length);
+        /** Becomes what the first of these signs say; if they say nothing, false, and it is of no use. */
+        boolean takesText(byte[] from, int signs) {
+            size = Math.min(signs, Math.min(from.length, text.length));
+            System.arraycopy(from, 0, text, 0, size);
             at = 0;
             partCount = 0;
             room = ROOM_WITHOUT;
