@@ -964,7 +964,7 @@ public final class RandomRuns {
 
     public static void main(String[] args) throws Exception {
         int wrong = 0;
-        int runs = args.length > 1 ? Integer.parseInt(args[1]) : RUNS;
+        int runs = args.length > 2 ? Integer.parseInt(args[2]) : RUNS;
         for (int seed = 1; seed <= runs && wrong < 5; seed++) {
             String otherwise = new RandomRuns(seed).run();
             if (otherwise != null) {
@@ -972,7 +972,7 @@ public final class RandomRuns {
                 System.out.println("seed " + seed + ": " + otherwise);
             }
         }
-        if (args.length > 2) {
+        if (args.length > 3) {
             ANSWERS.forEach((name, answers) -> System.out.println(name + " " + answers.size() + " "
                 + (answers.size() < 60 ? answers.toString() : answers.toString().substring(0, 300))));
         }
