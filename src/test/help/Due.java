@@ -1,6 +1,7 @@
 import java.nio.file.Files;
 import java.nio.file.Path;
 import java.util.ArrayList;
+import java.util.Arrays;
 import java.util.List;
 
 /**
@@ -77,24 +78,32 @@ public final class Due {
 
     /** args: the class's file, the document, and perhaps a word: then what no quote holds is printed. */
     public static void ends(String test, String[] args) throws Exception {
-        String document = onOneLine(Files.readString(Path.of(args[1])));
-        boolean[] isQuoted = new boolean[document.length()];
-        for (String quote : QUOTES) {
-            int at = document.indexOf(onOneLine(quote));
-            if (at < 0) {
-                failed++;
-                System.out.println("the document does not say \"" + quote + "\"");
-            }
-            for (; at >= 0; at = document.indexOf(onOneLine(quote), at + 1)) {
-                java.util.Arrays.fill(isQuoted, at, at + quote.length(), true);
-            }
-        }
-        if (args.length > 2) {
-            printsRest(document, isQuoted);
+        if (args.length > 1 && Files.isReadable(Path.of(args[1]))) {
+            looksForQuotes(onOneLine(Files.readString(Path.of(args[1]))), args.length > 2);
+        } else {
+            System.out.println(test + ": there is no document, so its quotes are not looked for");
         }
         System.out.println(test + ": " + passed + " answers as due, " + failed + " not");
         if (failed > 0) {
             System.exit(1);
+        }
+    }
+
+    private static void looksForQuotes(String document, boolean isRestPrinted) {
+        boolean[] isQuoted = new boolean[document.length()];
+        for (String words : QUOTES) {
+            String quote = onOneLine(words);
+            int at = document.indexOf(quote);
+            if (at < 0) {
+                failed++;
+                System.out.println("the document does not say \"" + quote + "\"");
+            }
+            for (; at >= 0; at = document.indexOf(quote, at + 1)) {
+                Arrays.fill(isQuoted, at, at + quote.length(), true);
+            }
+        }
+        if (isRestPrinted) {
+            printsRest(document, isQuoted);
         }
     }
 

@@ -785,7 +785,6 @@ public final class Terms {
         due("as great is not greater", z.best(1), NOT_ANY);
         hall(z, "slack 3 p>1");
         due("of several the first", z.best(0), 3);
-        due("behind 30 of them", firstOf30(), 3);
         says("SWAP: the two who should have each other's WORK from now on, so that YIELD is greatest, if greater than it is"
             + " (10 times the lesser and the greater number; of several the first; -5: none).");
         due("of several the first", z.best(1), 2);
@@ -812,14 +811,60 @@ public final class Terms {
         return x;
     }
 
-    /** The second of two would be quicker from minute 30 on, which is behind YIELD: both are worth the same. */
-    private static int firstOf30() {
+    /**
+     * The second of two is worth more than the first behind 30 MINUTES alone: behind 29 it has 86 to 87, behind 30 it has
+     * 93 to 90, behind 31 it has 93 as the first.
+     */
+    private static FoldedFilled justBehind30(int... works) {
         FoldedFilled x = fresh();
-        x.person(0, 0, 0);
-        x.person(0, 0, 0);
+        for (int work : works) {
+            x.person(0, 0, work);
+        }
         x.heap(3, 9999);
-        hall(x, "brisk 9 d=9&p=1");
-        return x.best(0);
+        hall(x, "brisk 4 m=9&p=1;slack 3 m=0&p=1;slack 3 p=2");
+        return x;
+    }
+
+    private static void thirtyMinutes() {
+        says("YIELD is what is on HEAP 4 behind 30 MINUTES.");
+        FoldedFilled x = justBehind30(3, 3);
+        due("behind 29", x.on(29, 20) - x.on(29, 21), 1);
+        due("behind 30", x.on(30, 20) - x.on(30, 21), -3);
+        due("behind 31", x.on(31, 20) - x.on(31, 21), 0);
+        due("yield", x.best(4), 90 + 93);
+        due("without(0)", x.without(0), 93);
+        due("without(1)", x.without(1), 90);
+        due("miss", x.best(3), 1);
+        due("move", justBehind30(0, 0, 3).best(0), 13);
+        due("swap", justBehind30(0, 0, 3).best(1), 12);
+        due("when: behind how many minutes the work is taken", justBehind30(3, 3).when(1, 3), 0);
+        FoldedFilled y = Due.slow();
+        y.work(0, 2);
+        y.heap(2, 100);
+        for (int[] lie : new int[][] {{0, 15}, {1, 14}, {2, 14}, {3, 13}}) {
+            y.heap(3, lie[0]);
+            due("when: with " + lie[0] + " to stamp", y.when(0, 3), lie[1]);
+        }
+    }
+
+    private static void theSixth() {
+        says("PEOPLE 0 .. 5, as they come, are of KINDS");
+        for (int kind = 0; kind <= 6; kind++) {
+            FoldedFilled x = fresh();
+            for (int p = 0; p < 6; p++) {
+                x.person(p < 5 ? 0 : kind, 9, p < 5 ? 0 : 2);
+            }
+            x.heap(2, 500);
+            x.row(5, 0, 5);
+            hall(x, "brisk 9 k=" + kind);
+            int[] each = {12, 16, 12, 12, 18, 10, 17};
+            due("kind " + kind + ", asked", x.on(1, 25), each[kind]);
+            due("kind " + kind + ", its zeal asked", x.on(1, 13), each[kind]);
+            x.image();
+            x.pass(1);
+            due("kind " + kind + ", gone on", x.of(5, 3), each[kind]);
+            due("kind " + kind + ", undone", x.undo() + x.of(5, 0), 6 + kind);
+        }
     }
 
     private static void whenAndEnough() {
@@ -1180,6 +1225,52 @@ public final class Terms {
         due("the newest holds", x.told(2), 9);
     }
 
+    /** An image of as many rows as there may be: the last of them counts, and the first. */
+    private static void fullImages() {
+        says("SEEN, the EVENING, the BOOK, which HALL holds.");
+        FoldedFilled x = Due.stampers(6, 0);
+        x.heap(3, 500);
+        for (int i = 0; i < 5; i++) {
+            x.see(3, 7, 0);
+        }
+        for (int i = 0; i < 9; i++) {
+            x.evening(5, i % 4);
+        }
+        x.evening(0, 0);
+        for (int i = 0; i < 7; i++) {
+            x.book(3, 500);
+        }
+        x.book(3, 499);
+        x.image();
+        due("seen", x.were(3, 1), 7);
+        due("the evening", x.ends(0), 6);
+        due("the book", x.looked(), 7);
+        for (int times = 0; times < 2; times++) {
+            x.see(-1, 0, 0);
+            x.evening(-1, 0);
+            x.book(-1, 0);
+            for (int i = 0; i < 5; i++) {
+                x.see(4, 9, 1);
+            }
+            for (int i = 0; i < 10; i++) {
+                x.evening(5, 5);
+            }
+            for (int i = 0; i < 8; i++) {
+                x.book(3, 500);
+            }
+            due("other rows seen", x.were(3, 1), 9);
+            due("another evening", x.ends(0), 0);
+            due("another book", x.looked(), NOT_ANY);
+            due("undo", x.undo(), 6);
+            due("all five are back", x.were(3, 1), 7);
+            due("all ten are back", x.ends(0), 6);
+            due("all eight are back", x.looked(), 7);
+            due("a sixth", x.see(0, 0, 0), FULL);
+            due("an eleventh", x.evening(0, 0), FULL);
+            due("a ninth", x.book(0, 0), FULL);
+        }
+    }
+
     // ---- tapes
 
     private static void tapesAndItems() {
@@ -1344,6 +1435,8 @@ public final class Terms {
         asksFarOn();
         onAndReady();
         yieldMoveAndSwap();
+        thirtyMinutes();
+        theSixth();
         whenAndEnough();
         withoutAndMiss();
         seenAndWere();
@@ -1355,6 +1448,7 @@ public final class Terms {
         actsWrap();
         traces();
         images();
+        fullImages();
         tapesAndItems();
         judges();
         shifts();
