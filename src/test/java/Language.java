@@ -1,7 +1,9 @@
 import java.nio.file.Files;
 import java.nio.file.Path;
+import java.util.HashMap;
 import java.util.HashSet;
 import java.util.List;
+import java.util.Map;
 import java.util.Set;
 import java.util.regex.Matcher;
 import java.util.regex.Pattern;
@@ -16,6 +18,11 @@ public final class Language {
         "hall", "told", "pass", "on", "ready", "best", "when", "without", "see", "were", "can", "odds", "mean", "evening",
         "ends", "book", "looked", "judge", "image", "undo", "act", "trace", "taken", "count", "tape", "item", "read",
         "shift");
+
+    private static final Set<String> LIBRARY = Set.of("String", "Math", "System", "Integer", "Long");
+    private static final Set<String> OF_LIBRARY = Set.of("Math.min", "Math.max", "System.arraycopy", "Integer.MAX_VALUE",
+        "Long.MIN_VALUE");
+    private static final int MOST_DEEP = 8, MOST_FIELDS = 20;
 
     private static int wrong;
 
@@ -109,11 +116,98 @@ public final class Language {
         }
     }
 
+    /** Every name of a class must be one of the file's own, or of the library's few; so must what is used of those. */
+    private static void looksAtLibrary(List<String> lines) {
+        Set<String> known = new HashSet<>(LIBRARY);
+        for (String line : lines) {
+            Matcher own = Pattern.compile("\\bclass (\\w+)").matcher(bare(line));
+            while (own.find()) {
+                known.add(own.group(1));
+            }
+        }
+        for (int i = 0; i < lines.size(); i++) {
+            Matcher name = Pattern.compile("\\b[A-Z]\\w*[a-z]\\w*").matcher(bare(lines.get(i)));
+            while (name.find()) {
+                if (!known.contains(name.group())) {
+                    wrong(4, i, lines.get(i));
+                }
+            }
+            Matcher used = Pattern.compile("\\b(Math|System|Integer|Long)\\.\\w+").matcher(bare(lines.get(i)));
+            while (used.find()) {
+                if (!OF_LIBRARY.contains(used.group())) {
+                    wrong(4, i, lines.get(i));
+                }
+            }
+        }
+    }
+
+    /** Which names are called in each method; methods of one name count as one, so what a kind asks of super does not. */
+    private static Map<String, Set<String>> callsOf(List<String> lines) {
+        Map<String, Set<String>> calls = new HashMap<>();
+        String method = "";
+        for (String line : lines) {
+            Matcher head = HEAD.matcher(line);
+            boolean isHead = head.matches() && !isFound("^\\s*(if|for|switch|while|return|\\})", line);
+            if (isHead) {
+                method = head.group(3);
+                calls.putIfAbsent(method, new HashSet<>());
+                continue;
+            }
+            Matcher called = Pattern.compile("(?<!new )\\b([a-z]\\w*)\\(").matcher(bare(line));
+            while (called.find() && !method.isEmpty()) {
+                calls.get(method).add(called.group(1));
+            }
+        }
+        return calls;
+    }
+
+    private static int deepest(String method, Map<String, Set<String>> calls, Set<String> open) {
+        int most = 0;
+        open.add(method);
+        for (String called : calls.get(method)) {
+            if (calls.containsKey(called) && !open.contains(called)) {
+                most = Math.max(most, deepest(called, calls, open));
+            }
+        }
+        open.remove(method);
+        return most + 1;
+    }
+
+    private static void looksAtDepth(List<String> lines) {
+        Map<String, Set<String>> calls = callsOf(lines);
+        for (String method : calls.keySet()) {
+            int deep = deepest(method, calls, new HashSet<>());
+            if (deep > MOST_DEEP) {
+                wrong(11, 0, method + " goes " + deep + " deep");
+            }
+        }
+    }
+
+    private static void looksAtFields(List<String> lines) {
+        int[] fields = new int[2];
+        for (int i = 0; i < lines.size(); i++) {
+            String line = bare(lines.get(i));
+            int inside = line.startsWith("        ") ? 1 : 0;
+            if (isFound("\\bclass \\w+", line)) {
+                fields[line.startsWith("    ") ? 1 : 0] = 0;
+            } else if (isFound("^( {4}| {8})(?! )(?!return|static|private static|public static)[\\w\\[\\], ]+;$", line)) {
+                // Lines of a method of the outer class stand 8 blanks in, too, but none is a declaration without a value.
+                fields[inside] += line.split(",").length;
+                if (fields[inside] > MOST_FIELDS) {
+                    wrong(11, i, fields[inside] + " fields: " + line);
+                }
+            }
+        }
+    }
+
     public static void main(String[] args) throws Exception {
         List<String> lines = Files.readAllLines(Path.of(args[0]));
         looksAtWords(lines);
         looksAtMethods(lines);
         looksAtClasses(lines);
+        looksAtLibrary(lines);
+        looksAtDepth(lines);
+        looksAtFields(lines);
         System.out.println("Language: " + (wrong == 0 ? "nothing found" : wrong + " lines"));
         if (wrong > 0) {
             System.exit(1);
